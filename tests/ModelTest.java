@@ -107,6 +107,7 @@ public final class ModelTest {
             StringBuilder b = new StringBuilder("feeder 300 100;");
             int count = r.nextInt(most);
             boolean limits = false;
+            int sheets = 0;
             for (int k = 0; k < count; k++) {
                 int kind = r.nextInt(20);
                 if (kind == 0 && !limits) {
@@ -116,8 +117,11 @@ public final class ModelTest {
                 } else if (kind == 1 && b.indexOf("simplex") < 0) {
                     b.append("simplex;");
                 } else if (kind == 2 && k > 0) {
-                    b.append("again ").append(1 + r.nextInt(4)).append(';');
+                    int times = r.nextInt(12) == 0 && sheets > 0 && sheets < 40 ? 40 - sheets : 1 + r.nextInt(4);
+                    b.append("again ").append(times).append(';');
+                    sheets += times;
                 } else {
+                    sheets++;
                     b.append(kind < 6 ? "code " + r.nextInt(1000) + " " : "sheet ").append(shape(r));
                     b.append(kind < 6 ? "" : " " + ink(r) + " " + ink(r));
                     b.append(r.nextInt(4) == 0 ? " stuck " + r.nextInt(r.nextInt(4) == 0 ? 401 : 25) : "").append(';');

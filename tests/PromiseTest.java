@@ -38,7 +38,10 @@ public final class PromiseTest {
         setLimit();
         setDuplex();
         undo();
+        undoOfPutBack();
         snapshots();
+        snapshotOfRows();
+        fullRows();
         Check.finish();
     }
 
@@ -96,6 +99,9 @@ public final class PromiseTest {
         errorIn("", 0, 1);
         errorIn("   \n", 4, 1);
         errorIn("feed 50 30;", 0, 1);
+        errorIn("50 30;", 0, 1);
+        errorIn("feedez 50 30;", 0, 1);
+        errorIn("zeeder 50 30;", 0, 1);
         errorIn("Feeder 50 30;", 0, 1);
         errorIn("feederr 50 30;", 0, 1);
         errorIn("feeder", 6, 1);
@@ -123,6 +129,12 @@ public final class PromiseTest {
         sheetsIn(HEAD + "code 0 50 30 -0;", 1);
         sheetsIn(HEAD + "code 999 500 500 - 99 stuck 400;again 1;simplex;limits 300 200 99 1000;again 2;", 4);
         sheetsIn(HEAD + "limits 101 0 0 0;simplex;" + SHEET, 1);
+        // Each text may have a limits and a simplex of its own.
+        PageFeeder x = Check.feeder(HEAD + "limits 101 0 0 0;simplex;");
+        Check.same("parse once more", Check.parse(x, HEAD + "limits 102 0 0 0;simplex;"), 0);
+        Check.same("and without them", Check.parse(x, HEAD), 0);
+        Check.same("percent without limits", x.limit(0), 150);
+        Check.same("mode without simplex", x.size(6), 1);
         errorIn(HEAD + "sheet 50 30 0 0 0 5;", 31, 1);
         errorIn(HEAD + "sheet 50 30 0 0;", 28, 1);
         errorIn(HEAD + "sheet 50 30 - - 0 0 0;", 27, 1);
@@ -215,6 +227,11 @@ public final class PromiseTest {
         // The sheets of an earlier text must not shine through.
         Check.parse(x, HEAD + "code 3 60 40 -9 stuck 8;");
         Check.parse(x, HEAD + "sheet 50 30 0 0 0;");
+        Check.parse(x, HEAD + "sheet 50 30 90 0 0;");
+        x.feed(1);
+        Check.parse(x, HEAD + "sheet 50 30 0 0 0;");
+        Check.same("a half behind parse", x.isHalf(0), false);
+        Check.same("halves behind parse", x.size(10), 0);
         int[] plain = {50, 30, 0, 0, 0, -1, -1, 0};
         for (int what = 0; what < plain.length; what++) {
             Check.same("sheet 0 what " + what, x.sheet(0, what), plain[what]);
@@ -347,6 +364,9 @@ public final class PromiseTest {
                 Check.same("job(" + j + ", " + what + ")", x.job(j, what), want[j][what]);
             }
         }
+        PageFeeder simplex = Check.feeder(HEAD + "simplex;sheet 50 30 0 10 10;again 2;");
+        simplex.feed(9);
+        Check.same("sheets of three pages in simplex", simplex.job(0, 3), 3);
         Check.throwsIndex("job(3, 9)", () -> x.job(3, 9));
         Check.throwsIndex("job(-1, 0)", () -> x.job(-1, 0));
         Check.throwsArgument("job(0, 4)", () -> x.job(0, 4));
@@ -486,6 +506,9 @@ public final class PromiseTest {
             }
         }
         Check.same("of many", x.bestPercent(), best);
+        // The mistakes are the fewest in the midst of the range, first at a percent that is rounded up.
+        Check.same("of thirds", Check.feeder("feeder 300 90;sheet 300 60 0 9 9 stuck 1;"
+                + "sheet 300 90 0 9 9;sheet 300 119 0 9 9;").bestPercent(), 133);
     }
 
     private static int mistakes(PageFeeder x, int percent) {
@@ -838,6 +861,69 @@ public final class PromiseTest {
         }
         Check.same("undo of nothing", x.undo(), -1);
         Check.same("percent", x.limit(0), 103);
+    }
+
+    private static void undoOfPutBack() {
+        PageFeeder x = Check.feeder(MIXED);
+        x.feed(9);
+        String stopped = Check.allButUndo(x);
+        x.putBack();
+        Check.same("a sheet that was put back is not stuck", x.next(0), 1);
+        x.undo();
+        Check.sameText("behind the undo of putBack", Check.allButUndo(x), stopped);
+        Check.same("it is stuck again", x.sheet(1, 6), 5);
+        Check.same("remove of both", x.remove(), 2);
+    }
+
+    /** Restores a snapshot after what went on in another way than it does then. */
+    private static void snapshotOfRows() {
+        PageFeeder x = Check.feeder("feeder 300 100;limits 300 20 30 5;code 5 300 100 0;sheet 300 120 0 9 9;again 7;"
+                + "sheet 300 70 0 9 9;again 6;sheet 300 200 40 9 9 stuck 7;sheet 300 150 0 9 9;");
+        x.feed(8);
+        x.saveSnapshot(0);
+        x.setDuplex(false);
+        x.feed(40);
+        x.putBack();
+        x.feed(1);
+        x.saveSnapshot(1);
+        String simplex = Check.allButUndo(x);
+        x.restoreSnapshot(0);
+        x.endJob(77);
+        x.feed(40);
+        x.restoreSnapshot(1);
+        Check.sameText("the pages of simplex", Check.allButUndo(x), simplex);
+        x.undo();
+        String before = Check.allButUndo(x);
+        x.setLimit(3, 1000);
+        x.undo();
+        Check.sameText("behind an undo", Check.allButUndo(x), before);
+    }
+
+    /** The greatest feeder: every row is full. */
+    private static void fullRows() {
+        PageFeeder x = Check.feeder("feeder 300 100;limits 101 20 30 5;sheet 300 100 99 9 9 stuck 400;again 39;");
+        Check.same("sheets of the pick", x.next(0), 40);
+        Check.same("its length", x.next(2), 39 * 400 + 300);
+        Check.same("feed", x.feed(1), 0);
+        Check.same("halves of 40", x.size(10), 0);
+        Check.same("path(39)", x.path(39), 39);
+        Check.same("path(40)", x.path(40), -1);
+        Check.same("stopped with an empty stack", x.next(0), -1);
+        Check.same("putBack", x.putBack(), 40);
+        Check.same("stack(39)", x.stack(39), 39);
+        Check.same("stack(40)", x.stack(40), -1);
+        x.setLimit(2, 99);
+        Check.same("feed of all", x.feed(40), 40);
+        Check.same("pages", x.size(4), 80);
+        Check.same("the last page", x.page(79, 0), 39);
+        Check.throwsIndex("page(80, 0)", () -> x.page(80, 0));
+        Check.same("sheets of the job", x.job(0, 3), 40);
+        Check.same("out", x.sheetsAt(2), 40);
+        Check.same("isHalf(39)", x.isHalf(39), false);
+        Check.throwsIndex("isHalf(40)", () -> x.isHalf(40));
+        Check.throwsIndex("sheet(40, 0)", () -> x.sheet(40, 0));
+        Check.same("undo", x.undo(), 3);
+        Check.same("ahead of all", x.ahead(101, 3), 80);
     }
 
     // Promises 27 and 28

@@ -55,9 +55,7 @@ public final class PageFeeder {
     private static final int PUT_BACK = 7;
     private static final int ACCEPTED = 8;
 
-    private final byte[] buffer = new byte[MAX_BYTES];
-    private int filled;
-    private final Parser parser = new Parser(buffer);
+    private final Parser parser = new Parser();
     private Setup setup = new Setup();
     private final State state = new State();
     private final State[] history = new State[MAX_UNDO];
@@ -84,22 +82,21 @@ public final class PageFeeder {
     // ---- feeder
 
     public int append(int a, int b, int c, int d, int e) {
-        if (filled + BYTES_APPENDED > MAX_BYTES) {
+        if (parser.filled + BYTES_APPENDED > MAX_BYTES) {
             return NONE;
         }
-        appendFour(a);
-        appendFour(b);
-        appendFour(c);
-        appendFour(d);
-        appendFour(e);
-        return filled;
+        parser.addFour(a);
+        parser.addFour(b);
+        parser.addFour(c);
+        parser.addFour(d);
+        parser.addFour(e);
+        return parser.filled;
     }
 
     public int parse(int length) throws IllegalArgumentException {
-        if (length < 0 || length > filled) {
+        if (length < 0 || length > parser.filled) {
             throw new IllegalArgumentException("length out of range");
         }
-        filled = 0;
         int error = parser.read(length);
         if (error != NONE) {
             return -2 - error;
@@ -425,13 +422,6 @@ public final class PageFeeder {
     }
 
     // ---- what the calls are made of
-
-    private void appendFour(int bytes) {
-        for (int shift = 24; shift >= 0 && filled < MAX_BYTES; shift -= 8) {
-            buffer[filled] = (byte) (bytes >> shift);
-            filled++;
-        }
-    }
 
     private void beginAnew() {
         state.begin(setup);
@@ -850,7 +840,7 @@ public final class PageFeeder {
         }
     }
 
-    /** Reads a text into a setup; one token stands read ahead. */
+    /** The input buffer, and what reads it into a setup; one token stands read ahead. */
     private static final class Parser {
         private static final int END = 0;
         private static final int WORD = 1;
@@ -868,7 +858,8 @@ public final class PageFeeder {
         private static final int WORD_LETTERS = 8;
         private static final int NUMBER_DIGITS = 4;
 
-        private final byte[] text;
+        private final byte[] text = new byte[MAX_BYTES];
+        private int filled;
         private Setup out = new Setup();
         private int length;
         private int kind;
@@ -878,8 +869,12 @@ public final class PageFeeder {
         private boolean limitsSeen;
         private boolean simplexSeen;
 
-        Parser(byte[] buffer) {
-            text = buffer;
+        /** Adds four bytes to the buffer, the most significant one first. */
+        void addFour(int bytes) {
+            for (int shift = 24; shift >= 0 && filled < MAX_BYTES; shift -= 8) {
+                text[filled] = (byte) (bytes >> shift);
+                filled++;
+            }
         }
 
         /** Hands out what was read, and takes a setup that is not needed any more to read into. */
@@ -889,9 +884,13 @@ public final class PageFeeder {
             return read;
         }
 
-        /** Returns NONE after a success, otherwise 8 * offset + kind of the first error. */
+        /**
+         * Reads the first bytes of the buffer, which is empty then. Returns NONE after a success,
+         * otherwise 8 * offset + kind of the first error.
+         */
         int read(int bytes) {
-            length = Math.min(bytes, text.length);
+            length = Math.min(bytes, filled);
+            filled = 0;
             out.clear();
             error = NONE;
             limitsSeen = false;
