@@ -57,6 +57,73 @@ final class Check {
         }
     }
 
+    /** The test of one sentence of the document; what it finds wrong is told with the sentence. */
+    static void about(String sentence, Runnable test) {
+        int wrongBefore = wrong;
+        int madeBefore = made;
+        try {
+            test.run();
+        } catch (RuntimeException e) {
+            wrong++;
+            System.out.println("the test stopped: " + e);
+        }
+        if (made == madeBefore) {
+            wrong++;
+            System.out.println("nothing was tested");
+        }
+        if (wrong > wrongBefore) {
+            System.out.println("-- this was about: " + sentence);
+        }
+    }
+
+    /** A call that should throw, and leave everything as it is. */
+    static void refusesArgument(String what, PageFeeder x, Call call) {
+        refuses(what, x, IllegalArgumentException.class, call);
+    }
+
+    static void refusesState(String what, PageFeeder x, Call call) {
+        refuses(what, x, IllegalStateException.class, call);
+    }
+
+    static void refusesIndex(String what, PageFeeder x, Call call) {
+        refuses(what, x, IndexOutOfBoundsException.class, call);
+    }
+
+    private static void refuses(String what, PageFeeder x, Class<?> want, Call call) {
+        String before = all(x);
+        throwsExactly(what, want, call);
+        sameText("everything behind " + what, all(x), before);
+    }
+
+    /** Numbers next to a range and far from it are refused; the ends of the range are not. */
+    static void range(String what, PageFeeder x, int least, int greatest, Question question) {
+        for (int value : new int[] {Integer.MIN_VALUE, least - 1, greatest + 1, Integer.MAX_VALUE}) {
+            refusesArgument(what + "(" + value + ")", x, () -> question.ask(value));
+        }
+        question.ask(least);
+        question.ask(greatest);
+    }
+
+    /** The answers to a question for 0, 1, 2 and so on. */
+    static void answers(String what, Question question, int... want) {
+        for (int k = 0; k < want.length; k++) {
+            same(what + "(" + k + ")", question.ask(k), want[k]);
+        }
+    }
+
+    /** What parse answers to an error. */
+    static int error(int offset, int kind) {
+        return -2 - (8 * offset + kind);
+    }
+
+    static void errorIn(String text, int offset, int kind) {
+        same("parse of " + text, parse(new PageFeeder(), text), error(offset, kind));
+    }
+
+    static void sheetsIn(String text, int sheets) {
+        same("parse of " + text, parse(new PageFeeder(), text), sheets);
+    }
+
     /** Appends the text, filled up with spaces to a multiple of twenty bytes. */
     static int append(PageFeeder x, String text) {
         int length = 0;

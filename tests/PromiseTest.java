@@ -45,18 +45,6 @@ public final class PromiseTest {
         Check.finish();
     }
 
-    private static int error(int offset, int kind) {
-        return -2 - (8 * offset + kind);
-    }
-
-    private static void errorIn(String text, int offset, int kind) {
-        Check.same("parse of " + text, Check.parse(new PageFeeder(), text), error(offset, kind));
-    }
-
-    private static void sheetsIn(String text, int sheets) {
-        Check.same("parse of " + text, Check.parse(new PageFeeder(), text), sheets);
-    }
-
     // Promise 1
     private static void newObject() {
         PageFeeder x = new PageFeeder();
@@ -66,7 +54,7 @@ public final class PromiseTest {
             Check.same("size " + what + " of a new object", x.size(what), sizes[what]);
         }
         Check.throwsArgument("parse(1) of an empty buffer", () -> x.parse(1));
-        Check.same("parse(0) of a new object", x.parse(0), error(0, 1));
+        Check.same("parse(0) of a new object", x.parse(0), Check.error(0, 1));
         Check.same("undo of a new object", x.undo(), -1);
         Check.same("snapshot 0 of a new object", x.restoreSnapshot(0), false);
         Check.same("snapshot 1 of a new object", x.restoreSnapshot(1), false);
@@ -83,7 +71,7 @@ public final class PromiseTest {
         }
         Check.same("append to a full buffer", x.append(0, 0, 0, 0, 0), -1);
         Check.throwsArgument("parse beyond a full buffer", () -> x.parse(701));
-        Check.same("parse of a full buffer", x.parse(700), error(16, 1));
+        Check.same("parse of a full buffer", x.parse(700), Check.error(16, 1));
         Check.same("append after a parse", x.append(0, 0, 0, 0, 0), 20);
         // The signs of all five numbers, each byte at its place.
         Check.parse(x, "");
@@ -96,67 +84,67 @@ public final class PromiseTest {
 
     // Promise 3
     private static void parseHeads() {
-        errorIn("", 0, 1);
-        errorIn("   \n", 4, 1);
-        errorIn("feed 50 30;", 0, 1);
-        errorIn("50 30;", 0, 1);
-        errorIn("feedez 50 30;", 0, 1);
-        errorIn("zeeder 50 30;", 0, 1);
-        errorIn("Feeder 50 30;", 0, 1);
-        errorIn("feederr 50 30;", 0, 1);
-        errorIn("feeder", 6, 1);
-        errorIn("feeder 50", 9, 1);
-        errorIn("feeder 50 30  ", 14, 1);
-        errorIn("feeder ;", 7, 1);
-        errorIn("feeder -50 30;", 7, 1);
-        errorIn("feeder 50 30;x", 13, 1);
-        errorIn("feeder 50 30;;", 13, 1);
-        errorIn("feeder 50 30;feeder 50 30;", 13, 1);
-        errorIn("feeder\t50 30;", 6, 1);
-        errorIn("feeder 50 30;" + (char) 0, 13, 1);
-        errorIn("feeder 50 30;" + (char) 233, 13, 1);
-        sheetsIn("feeder50 30;", 0);
-        sheetsIn("\n feeder \n 50\n30 \n;\n", 0);
-        sheetsIn("feeder 0500 0030;", 0);
-        errorIn("feeder 00050 30;", 7, 1);
-        errorIn("feeder 50 30;sheetsheet 50 30 0 0 0;", 13, 1);
-        errorIn("feeder 50 30;simplexs;", 13, 1);
+        Check.errorIn("", 0, 1);
+        Check.errorIn("   \n", 4, 1);
+        Check.errorIn("feed 50 30;", 0, 1);
+        Check.errorIn("50 30;", 0, 1);
+        Check.errorIn("feedez 50 30;", 0, 1);
+        Check.errorIn("zeeder 50 30;", 0, 1);
+        Check.errorIn("Feeder 50 30;", 0, 1);
+        Check.errorIn("feederr 50 30;", 0, 1);
+        Check.errorIn("feeder", 6, 1);
+        Check.errorIn("feeder 50", 9, 1);
+        Check.errorIn("feeder 50 30  ", 14, 1);
+        Check.errorIn("feeder ;", 7, 1);
+        Check.errorIn("feeder -50 30;", 7, 1);
+        Check.errorIn("feeder 50 30;x", 13, 1);
+        Check.errorIn("feeder 50 30;;", 13, 1);
+        Check.errorIn("feeder 50 30;feeder 50 30;", 13, 1);
+        Check.errorIn("feeder\t50 30;", 6, 1);
+        Check.errorIn("feeder 50 30;" + (char) 0, 13, 1);
+        Check.errorIn("feeder 50 30;" + (char) 233, 13, 1);
+        Check.sheetsIn("feeder50 30;", 0);
+        Check.sheetsIn("\n feeder \n 50\n30 \n;\n", 0);
+        Check.sheetsIn("feeder 0500 0030;", 0);
+        Check.errorIn("feeder 00050 30;", 7, 1);
+        Check.errorIn("feeder 50 30;sheetsheet 50 30 0 0 0;", 13, 1);
+        Check.errorIn("feeder 50 30;simplexs;", 13, 1);
     }
 
     private static void parseStatements() {
-        sheetsIn(HEAD + SHEET, 1);
-        sheetsIn(HEAD + "sheet50 30 0 0 0stuck0;", 1);
-        sheetsIn(HEAD + "code 0 50 30 -0;", 1);
-        sheetsIn(HEAD + "code 999 500 500 - 99 stuck 400;again 1;simplex;limits 300 200 99 1000;again 2;", 4);
-        sheetsIn(HEAD + "limits 101 0 0 0;simplex;" + SHEET, 1);
+        Check.sheetsIn(HEAD + SHEET, 1);
+        Check.sheetsIn(HEAD + "sheet50 30 0 0 0stuck0;", 1);
+        Check.sheetsIn(HEAD + "code 0 50 30 -0;", 1);
+        Check.sheetsIn(HEAD + "code 999 500 500 - 99 stuck 400;again 1;simplex;limits 300 200 99 1000;again 2;", 4);
+        Check.sheetsIn(HEAD + "limits 101 0 0 0;simplex;" + SHEET, 1);
         // Each text may have a limits and a simplex of its own.
         PageFeeder x = Check.feeder(HEAD + "limits 101 0 0 0;simplex;");
         Check.same("parse once more", Check.parse(x, HEAD + "limits 102 0 0 0;simplex;"), 0);
         Check.same("and without them", Check.parse(x, HEAD), 0);
         Check.same("percent without limits", x.limit(0), 150);
         Check.same("mode without simplex", x.size(6), 1);
-        errorIn(HEAD + "sheet 50 30 0 0 0 5;", 31, 1);
-        errorIn(HEAD + "sheet 50 30 0 0;", 28, 1);
-        errorIn(HEAD + "sheet 50 30 - - 0 0 0;", 27, 1);
-        errorIn(HEAD + "sheet 50 30 0 -0 0;", 27, 1);
-        errorIn(HEAD + "sheet 50 30 0 0 0 stuck -1;", 37, 1);
-        errorIn(HEAD + "sheet 50 30 0 0 0 glue 1;", 31, 1);
-        errorIn(HEAD + "sheet 50 30 0 0 0 stuck 1 stuck 1;", 39, 1);
-        errorIn(HEAD + "code 1 50 30 0 0;", 28, 1);
-        errorIn(HEAD + "code -1 50 30 0;", 18, 1);
-        errorIn(HEAD + SHEET + "again;", 38, 1);
-        errorIn(HEAD + SHEET + "again 1", 40, 1);
-        errorIn(HEAD + "simplex 1;", 21, 1);
-        errorIn(HEAD + "limits 150 20 30;", 29, 1);
-        errorIn(HEAD + "limits 150 20 30 5 5;", 32, 1);
-        errorIn(HEAD + "simplex;limits 150 20 30 5;simplex", 40, 2);
-        errorIn(HEAD + "limits 150 20 30 5;simplex;limits", 40, 2);
-        errorIn(HEAD + "again", 13, 3);
-        errorIn(HEAD + "simplex;again 99;", 21, 3);
-        errorIn(HEAD + "simplex simplex;", 21, 1);
+        Check.errorIn(HEAD + "sheet 50 30 0 0 0 5;", 31, 1);
+        Check.errorIn(HEAD + "sheet 50 30 0 0;", 28, 1);
+        Check.errorIn(HEAD + "sheet 50 30 - - 0 0 0;", 27, 1);
+        Check.errorIn(HEAD + "sheet 50 30 0 -0 0;", 27, 1);
+        Check.errorIn(HEAD + "sheet 50 30 0 0 0 stuck -1;", 37, 1);
+        Check.errorIn(HEAD + "sheet 50 30 0 0 0 glue 1;", 31, 1);
+        Check.errorIn(HEAD + "sheet 50 30 0 0 0 stuck 1 stuck 1;", 39, 1);
+        Check.errorIn(HEAD + "code 1 50 30 0 0;", 28, 1);
+        Check.errorIn(HEAD + "code -1 50 30 0;", 18, 1);
+        Check.errorIn(HEAD + SHEET + "again;", 38, 1);
+        Check.errorIn(HEAD + SHEET + "again 1", 40, 1);
+        Check.errorIn(HEAD + "simplex 1;", 21, 1);
+        Check.errorIn(HEAD + "limits 150 20 30;", 29, 1);
+        Check.errorIn(HEAD + "limits 150 20 30 5 5;", 32, 1);
+        Check.errorIn(HEAD + "simplex;limits 150 20 30 5;simplex", 40, 2);
+        Check.errorIn(HEAD + "limits 150 20 30 5;simplex;limits", 40, 2);
+        Check.errorIn(HEAD + "again", 13, 3);
+        Check.errorIn(HEAD + "simplex;again 99;", 21, 3);
+        Check.errorIn(HEAD + "simplex simplex;", 21, 1);
         // An error at a lower offset hides the later ones.
-        errorIn(HEAD + "sheet 49 30 0 0 A", 19, 4);
-        errorIn(HEAD + "limits 301 300 300 9999;#", 20, 4);
+        Check.errorIn(HEAD + "sheet 49 30 0 0 A", 19, 4);
+        Check.errorIn(HEAD + "limits 301 300 300 9999;#", 20, 4);
     }
 
     private static void parseRanges() {
@@ -178,31 +166,31 @@ public final class PromiseTest {
         range(HEAD + "limits 101 ", 0, 200, " 0 0;", 0);
         range(HEAD + "limits 101 0 ", 0, 99, " 0;", 0);
         range(HEAD + "limits 101 0 0 ", 0, 1000, ";", 0);
-        sheetsIn(HEAD + SHEET + "again 1;", 2);
-        sheetsIn(HEAD + SHEET + "again 39;", 40);
-        errorIn(HEAD + SHEET + "again 0;", 39, 4);
-        errorIn(HEAD + SHEET + "again 40;", 39, 4);
+        Check.sheetsIn(HEAD + SHEET + "again 1;", 2);
+        Check.sheetsIn(HEAD + SHEET + "again 39;", 40);
+        Check.errorIn(HEAD + SHEET + "again 0;", 39, 4);
+        Check.errorIn(HEAD + SHEET + "again 40;", 39, 4);
     }
 
     private static void range(String before, int least, int greatest, String behind, int sheets) {
-        sheetsIn(before + least + behind, sheets);
-        sheetsIn(before + greatest + behind, sheets);
-        errorIn(before + (greatest + 1) + behind, before.length(), 4);
+        Check.sheetsIn(before + least + behind, sheets);
+        Check.sheetsIn(before + greatest + behind, sheets);
+        Check.errorIn(before + (greatest + 1) + behind, before.length(), 4);
         if (least > 0) {
-            errorIn(before + (least - 1) + behind, before.length(), 4);
+            Check.errorIn(before + (least - 1) + behind, before.length(), 4);
         }
     }
 
     private static void parseCounts() {
         String forty = HEAD + SHEET + "again 39;";
-        sheetsIn(forty + "simplex;limits 101 0 0 0;", 40);
-        errorIn(forty + "sheet", 42, 5);
-        errorIn(forty + "code 1000", 42, 5);
-        errorIn(forty + "again 1;", 48, 5);
+        Check.sheetsIn(forty + "simplex;limits 101 0 0 0;", 40);
+        Check.errorIn(forty + "sheet", 42, 5);
+        Check.errorIn(forty + "code 1000", 42, 5);
+        Check.errorIn(forty + "again 1;", 48, 5);
         // Out of range and too many at one offset: the lower kind.
-        errorIn(forty + "again 40;", 48, 4);
-        sheetsIn(HEAD + "code 1 50 30 0;again 9;" + SHEET + "again 29;", 40);
-        errorIn(HEAD + "code 1 50 30 0;again 9;" + SHEET + "again 30;", 62, 5);
+        Check.errorIn(forty + "again 40;", 48, 4);
+        Check.sheetsIn(HEAD + "code 1 50 30 0;again 9;" + SHEET + "again 29;", 40);
+        Check.errorIn(HEAD + "code 1 50 30 0;again 9;" + SHEET + "again 30;", 62, 5);
     }
 
     private static void parseKeepsAndEmpties() {
@@ -214,7 +202,7 @@ public final class PromiseTest {
         Check.throwsArgument("parse(-1)", () -> x.parse(-1));
         Check.throwsArgument("parse(21)", () -> x.parse(21));
         Check.same("append after a refused parse", Check.append(x, "A"), 40);
-        Check.same("parse of a syntax error", x.parse(20), error(20, 1));
+        Check.same("parse of a syntax error", x.parse(20), Check.error(20, 1));
         Check.sameText("after a syntax error", Check.all(x), before);
         Check.same("append after a syntax error", Check.append(x, HEAD), 20);
         Check.same("snapshot 1 after a syntax error", x.restoreSnapshot(1), true);
