@@ -529,6 +529,11 @@ public final class BoundaryQuestionTest {
         foreseen("the last one", full, 300, 0, 0, 0, 2, 0);
         full.feed(1);
         foreseen("behind all", full, 300, 0, 0, 0, 0, 0);
+        // It ends with the stack, also where no length is too short.
+        PageFeeder any = Check.feeder("feeder 50 30;limits 150 200 30 5;sheet 50 30 0 9 9;");
+        foreseen("any length", any, 150, 0, 0, 0, 2, 0);
+        any.feed(1);
+        foreseen("any length behind all", any, 150, 0, 0, 0, 0, 0);
         // The usual thickness goes on from the good picks so far: 50, so 80 is 160 percent.
         PageFeeder x = Check.feeder(HEAD + "sheet 300 50 0 9 9;sheet 300 80 0 9 9;");
         foreseen("from the begin", x, 159, 1, 1, 0, 2, 1);
