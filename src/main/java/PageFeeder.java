@@ -59,7 +59,8 @@ public final class PageFeeder {
     private Setup setup = new Setup();
     private final State state = new State();
     private final State[] history = new State[MAX_UNDO];
-    private int latest;
+    /** States kept less those undone; modulo the length of the ring the place of the next one. */
+    private int remembered;
     private int undoable;
     private final State[] snapshots = new State[SLOTS];
     private final boolean[] saved = new boolean[SLOTS];
@@ -327,7 +328,7 @@ public final class PageFeeder {
         if (isSheet(first)) {
             state.skew[first] /= 2;
         }
-        state.accounts[PUT_BACK] += state.inPath;
+        state.count(PUT_BACK, state.inPath);
         state.top = first;
         clearPath();
         return stackSize();
@@ -340,7 +341,7 @@ public final class PageFeeder {
         remember();
         for (int s = firstInPath(); isSheet(s) && s < state.top; s++) {
             state.where[s] = REMOVED;
-            state.accounts[HALVES_REMOVED] += state.half[s];
+            state.count(HALVES_REMOVED, state.half[s]);
             state.half[s] = 0;
         }
         int removed = state.inPath;
@@ -353,7 +354,7 @@ public final class PageFeeder {
             throw new IllegalStateException("no pick that can be accepted");
         }
         remember();
-        state.accounts[ACCEPTED]++;
+        state.count(ACCEPTED, 1);
         int pages = goThrough(firstInPath(), state.inPath);
         clearPath();
         return pages;
@@ -397,9 +398,9 @@ public final class PageFeeder {
         if (undoable <= 0) {
             return NONE;
         }
-        state.copyFrom(history[latest]);
-        latest = latest > 0 ? latest - 1 : MAX_UNDO - 1;
+        remembered--;
         undoable--;
+        state.copyFrom(history[Math.floorMod(remembered, MAX_UNDO)]);
         return undoable;
     }
 
@@ -433,11 +434,9 @@ public final class PageFeeder {
 
     /** Keeps the state ahead of a change; the oldest of ten is written over. */
     private void remember() {
-        latest = latest < MAX_UNDO - 1 ? latest + 1 : 0;
-        history[latest].copyFrom(state);
-        if (undoable < MAX_UNDO) {
-            undoable++;
-        }
+        history[Math.floorMod(remembered, MAX_UNDO)].copyFrom(state);
+        remembered++;
+        undoable = Math.min(undoable + 1, MAX_UNDO);
     }
 
     private boolean isSheet(int sheet) {
@@ -468,7 +467,7 @@ public final class PageFeeder {
     private boolean pickOnce() {
         pick.measure(setup, state, state.top);
         int reason = reasonToStop(state.limits[PERCENT], state.goods.usual(setup.usualThick));
-        state.accounts[PICKS]++;
+        state.count(PICKS, 1);
         state.top += pick.sheets;
         if (reason != NO_STOP) {
             stop(reason);
@@ -476,7 +475,7 @@ public final class PageFeeder {
         }
         if (pick.sheets == 1) {
             state.goods.add(pick.thickness);
-            state.accounts[GOOD]++;
+            state.count(GOOD, 1);
         }
         goThrough(pick.first, pick.sheets);
         return true;
@@ -497,7 +496,7 @@ public final class PageFeeder {
     private void stop(int reason) {
         state.reason = reason;
         state.inPath = pick.sheets;
-        state.accounts[reason]++;
+        state.count(reason, 1);
         for (int s = pick.first; isSheet(s) && s < state.top; s++) {
             state.where[s] = IN_PATH;
         }
@@ -519,7 +518,7 @@ public final class PageFeeder {
         for (int s = first + 1; isSheet(s) && s < first + sheets; s++) {
             state.where[s] = HIDDEN;
         }
-        state.accounts[HALVES_REPLACED] += state.half[first];
+        state.count(HALVES_REPLACED, state.half[first]);
         state.half[first] = 0;
         if (setup.code[first] != NONE) {
             state.where[first] = CODE_THROUGH;
@@ -588,6 +587,9 @@ public final class PageFeeder {
         }
 
         int ink(int sheet, int side) {
+            if (sheet < 0 || sheet >= sheets) {
+                return 0;
+            }
             return side == 0 ? front[sheet] : back[sheet];
         }
 
@@ -620,31 +622,25 @@ public final class PageFeeder {
     /** The thicknesses of the latest good picks. */
     private static final class Goods {
         final int[] thickness = new int[GOOD_PICKS];
-        int count;
-        int oldest;
+        int added;
 
         void clear() {
-            count = 0;
-            oldest = 0;
+            added = 0;
         }
 
         void copyFrom(Goods other) {
             System.arraycopy(other.thickness, 0, thickness, 0, GOOD_PICKS);
-            count = other.count;
-            oldest = other.oldest;
+            added = other.added;
         }
 
+        /** Writes over the oldest of six. */
         void add(int value) {
-            if (count < GOOD_PICKS) {
-                thickness[count] = value;
-                count++;
-                return;
-            }
-            thickness[oldest] = value;
-            oldest = oldest < GOOD_PICKS - 1 ? oldest + 1 : 0;
+            thickness[Math.floorMod(added, GOOD_PICKS)] = value;
+            added++;
         }
 
         int usual(int withoutPicks) {
+            int count = Math.min(added, GOOD_PICKS);
             if (count <= 0) {
                 return withoutPicks;
             }
@@ -718,6 +714,12 @@ public final class PageFeeder {
             pages = other.pages;
             jobs = other.jobs;
             duplex = other.duplex;
+        }
+
+        void count(int account, int number) {
+            if (account >= 0 && account < ACCOUNTS) {
+                accounts[account] += number;
+            }
         }
 
         void beginJob(int code) {
